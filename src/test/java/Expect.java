@@ -1,0 +1,91 @@
+/** What the tests share: they print every answer that is not the one that is due, and then exit with 1. */
+final class Expect {
+    /** A call of the face. */
+    interface Call {
+        long answer();
+    }
+
+    private static int wrong = 0;
+    private static int asked = 0;
+
+    private Expect() {
+    }
+
+    static void answer(long due, String call, Call made) {
+        asked++;
+        String got = outcome(made);
+        if (!got.equals(Long.toString(due))) {
+            report(call, got, Long.toString(due));
+        }
+    }
+
+    static void thrown(Class<? extends RuntimeException> due, String call, Call made) {
+        asked++;
+        String got = outcome(made);
+        if (!got.equals("throws " + due.getSimpleName())) {
+            report(call, got, "throws " + due.getSimpleName());
+        }
+    }
+
+    static void same(String due, String got, String what) {
+        asked++;
+        if (!got.equals(due)) {
+            report(what, got, due);
+        }
+    }
+
+    /** The answer, or the very class of what was thrown: a class below it would be another one. */
+    static String outcome(Call made) {
+        try {
+            return Long.toString(made.answer());
+        } catch (RuntimeException e) {
+            return "throws " + e.getClass().getSimpleName();
+        }
+    }
+
+    static void fill(ButterflyYard yard, int row, int... values) {
+        yard.clear(row);
+        for (int value : values) {
+            yard.append(row, value);
+        }
+    }
+
+    static String row(ButterflyYard yard, int row) {
+        StringBuilder text = new StringBuilder();
+        for (int entry = 0; entry < yard.length(row); entry++) {
+            text.append(entry == 0 ? "" : " ").append(yard.at(row, entry));
+        }
+        return text.toString();
+    }
+
+    /** All that can be seen of a yard: what a call that throws must not change. */
+    static String state(ButterflyYard yard) {
+        StringBuilder text = new StringBuilder();
+        for (int row = 0; row < 4; row++) {
+            text.append('[').append(row(yard, row)).append(']');
+        }
+        text.append(yard.plans());
+        for (int plan = 0; plan < yard.plans(); plan++) {
+            text.append('(').append(yard.root(plan)).append(' ').append(yard.ways(plan)).append(')');
+        }
+        return text.toString();
+    }
+
+    static void unchanged(ButterflyYard yard, Class<? extends RuntimeException> due, String call, Call made) {
+        String before = state(yard);
+        thrown(due, call, made);
+        same(before, state(yard), "the state after " + call);
+    }
+
+    private static void report(String what, String got, String due) {
+        wrong++;
+        System.out.println(what + ": " + got + ", due is " + due);
+    }
+
+    static void finish() {
+        System.out.println(asked + " checks, " + wrong + " wrong");
+        if (wrong != 0 || asked == 0) {
+            System.exit(1);
+        }
+    }
+}
