@@ -651,14 +651,14 @@ public final class ButterflyYard {
             return result;
         }
 
-        /** The least divisor above 1; of 1, 1. */
+        /** The least divisor above 1. Never below 2, even of 1, which has none: the callers divide by it. */
         static int leastFactor(int number) {
             for (int divisor = 2; divisor * divisor <= number; divisor++) {
                 if (number % divisor == 0) {
                     return divisor;
                 }
             }
-            return number;
+            return Math.max(number, 2);
         }
 
         static boolean isPrime(int number) {
@@ -669,7 +669,7 @@ public final class ButterflyYard {
         static int leastPrimePart(int number) {
             int factor = leastFactor(number);
             int part = 1;
-            for (int step = 0; step < MOST_BITS && factor > 1 && number % (part * factor) == 0; step++) {
+            for (int step = 0; step < MOST_BITS && number % (part * factor) == 0; step++) {
                 part *= factor;
             }
             return part;
