@@ -44,44 +44,49 @@ public final class ConvolutionsTest {
     }
 
     private static void convolveWrongly() {
-        ButterflyYard yard = filled();
         for (int none : NO_NUMBERS) {
-            Expect.unchanged(yard, INDEX, "convolve by plan " + none, () -> yard.convolve(none, 0, 1, 3));
-            Expect.unchanged(yard, INDEX, "convolve of " + none, () -> yard.convolve(0, none, 1, 3));
-            Expect.unchanged(yard, INDEX, "convolve with " + none, () -> yard.convolve(0, 0, none, 3));
-            Expect.unchanged(yard, INDEX, "convolve to " + none, () -> yard.convolve(0, 0, 1, none));
-            Expect.unchanged(yard, INDEX, "convolve too long a row to " + none, () -> yard.convolve(0, 2, 2, none));
-            Expect.unchanged(yard, INDEX, "convolved by plan " + none, () -> yard.convolved(none, 0, 1, 0));
-            Expect.unchanged(yard, INDEX, "convolved of " + none, () -> yard.convolved(0, none, 1, 0));
-            Expect.unchanged(yard, INDEX, "convolved with " + none, () -> yard.convolved(0, 0, none, 0));
-            Expect.unchanged(yard, INDEX, "convolved entry " + none, () -> yard.convolved(0, 0, 1, none));
+            Expect.unchanged(ConvolutionsTest::filled, INDEX, "convolve by plan " + none, yard -> yard.convolve(none, 0, 1, 3));
+            Expect.unchanged(ConvolutionsTest::filled, INDEX, "convolve of " + none, yard -> yard.convolve(0, none, 1, 3));
+            Expect.unchanged(ConvolutionsTest::filled, INDEX, "convolve with " + none, yard -> yard.convolve(0, 0, none, 3));
+            Expect.unchanged(ConvolutionsTest::filled, INDEX, "convolve to " + none, yard -> yard.convolve(0, 0, 1, none));
+            Expect.unchanged(ConvolutionsTest::filled, INDEX, "convolve too long a row to " + none, yard -> yard.convolve(0, 2, 2, none));
+            Expect.unchanged(ConvolutionsTest::filled, INDEX, "convolved by plan " + none, yard -> yard.convolved(none, 0, 1, 0));
+            Expect.unchanged(ConvolutionsTest::filled, INDEX, "convolved of " + none, yard -> yard.convolved(0, none, 1, 0));
+            Expect.unchanged(ConvolutionsTest::filled, INDEX, "convolved with " + none, yard -> yard.convolved(0, 0, none, 0));
+            Expect.unchanged(ConvolutionsTest::filled, INDEX, "convolved entry " + none, yard -> yard.convolved(0, 0, 1, none));
         }
-        Expect.unchanged(yard, INDEX, "convolved entry 3", () -> yard.convolved(0, 0, 1, 3));
-        Expect.unchanged(yard, INDEX, "convolved entry 3 of too long a row", () -> yard.convolved(0, 2, 1, 3));
-        Expect.unchanged(yard, STATE, "convolve of too long a row", () -> yard.convolve(0, 2, 1, 3));
-        Expect.unchanged(yard, STATE, "convolve with too long a row", () -> yard.convolve(0, 1, 2, 3));
-        Expect.unchanged(yard, STATE, "convolved of too long a row", () -> yard.convolved(0, 2, 1, 2));
-        Expect.unchanged(yard, STATE, "convolved with too long a row", () -> yard.convolved(0, 1, 2, 2));
+        Expect.unchanged(ConvolutionsTest::filled, INDEX, "convolved entry 3", yard -> yard.convolved(0, 0, 1, 3));
+        Expect.unchanged(ConvolutionsTest::filled, INDEX, "convolved entry 3 of too long a row", yard -> yard.convolved(0, 2, 1, 3));
+        Expect.unchanged(ConvolutionsTest::filled, STATE, "convolve of too long a row", yard -> yard.convolve(0, 2, 1, 3));
+        Expect.unchanged(ConvolutionsTest::filled, STATE, "convolve with too long a row", yard -> yard.convolve(0, 1, 2, 3));
+        Expect.unchanged(ConvolutionsTest::filled, STATE, "convolved of too long a row", yard -> yard.convolved(0, 2, 1, 2));
+        Expect.unchanged(ConvolutionsTest::filled, STATE, "convolved with too long a row", yard -> yard.convolved(0, 1, 2, 2));
     }
 
-    private static void filter() {
+    private static ButterflyYard samples() {
         ButterflyYard yard = new ButterflyYard();
         Expect.fill(yard, 0, 1, -2, 3, -4, 5);
         Expect.fill(yard, 1, 10, 20, 30);
+        return yard;
+    }
+
+    private static void filter() {
         for (int block = 1; block <= 32; block++) {
             int size = block;
+            ButterflyYard yard = samples();
             Expect.answer(7, "filter by overlap-add", () -> yard.filter(0, 1, 2, size, false));
             Expect.same("10 0 20 -40 60 -20 150", Expect.row(yard, 2), "overlap-add in blocks of " + block);
             Expect.answer(7, "filter by overlap-save", () -> yard.filter(0, 1, 3, size, true));
             Expect.same("10 0 20 -40 60 -20 150", Expect.row(yard, 3), "overlap-save in blocks of " + block);
         }
+        ButterflyYard yard = samples();
         Expect.fill(yard, 2, 99);
         Expect.fill(yard, 3, -99);
         Expect.answer(1, "filter one entry", () -> yard.filter(2, 3, 2, 32, false));
         Expect.same("[1 -2 3 -4 5][10 20 30][-9801][-99]0", Expect.state(yard), "the state after filter of one entry");
         Expect.answer(5, "filter a row with itself onto itself", () -> yard.filter(1, 1, 1, 2, true));
         Expect.same("100 400 1000 1200 900", Expect.row(yard, 1), "the square of 10 20 30");
-        Expect.unchanged(yard, ARGUMENT, "filter of what a filter made", () -> yard.filter(1, 0, 2, 2, true));
+        Expect.thrown(ARGUMENT, "filter of what a filter made", () -> yard.filter(1, 0, 2, 2, true));
     }
 
     private static void filterEveryBlock() {
@@ -119,37 +124,47 @@ public final class ConvolutionsTest {
         }
     }
 
-    private static void filterWrongly() {
+    private static ButterflyYard noSamples() {
         ButterflyYard yard = new ButterflyYard();
         Expect.fill(yard, 0, 1, 2);
         Expect.fill(yard, 1, 100, 1);
         Expect.fill(yard, 2, 1, -100);
+        return yard;
+    }
+
+    /** 33 digits in row 0 and in row 2, and 33 with a 10 at last in row 1. */
+    private static ButterflyYard longRows() {
+        ButterflyYard yard = new ButterflyYard();
+        for (int number = 0; number < 33; number++) {
+            yard.append(0, 9);
+            yard.append(1, number == 32 ? 10 : 9);
+            yard.append(2, 0);
+        }
+        return yard;
+    }
+
+    private static void filterWrongly() {
         for (int none : NO_NUMBERS) {
-            Expect.unchanged(yard, INDEX, "filter of " + none, () -> yard.filter(none, 0, 0, 1, false));
-            Expect.unchanged(yard, INDEX, "filter by " + none, () -> yard.filter(0, none, 0, 1, true));
-            Expect.unchanged(yard, INDEX, "filter to " + none, () -> yard.filter(0, 0, none, 1, false));
-            Expect.unchanged(yard, INDEX, "filter to " + none + " in no block", () -> yard.filter(0, 0, none, 0, false));
-            Expect.unchanged(yard, INDEX, "filter of nothing to " + none, () -> yard.filter(3, 3, none, 1, false));
+            Expect.unchanged(ConvolutionsTest::noSamples, INDEX, "filter of " + none, yard -> yard.filter(none, 0, 0, 1, false));
+            Expect.unchanged(ConvolutionsTest::noSamples, INDEX, "filter by " + none, yard -> yard.filter(0, none, 0, 1, true));
+            Expect.unchanged(ConvolutionsTest::noSamples, INDEX, "filter to " + none, yard -> yard.filter(0, 0, none, 1, false));
+            Expect.unchanged(ConvolutionsTest::noSamples, INDEX, "filter to " + none + " in no block", yard -> yard.filter(0, 0, none, 0, false));
+            Expect.unchanged(ConvolutionsTest::noSamples, INDEX, "filter of nothing to " + none, yard -> yard.filter(3, 3, none, 1, false));
         }
         for (int block : new int[] {0, -1, 33, Integer.MIN_VALUE, Integer.MAX_VALUE}) {
-            Expect.unchanged(yard, ARGUMENT, "filter in blocks of " + block, () -> yard.filter(0, 0, 3, block, true));
-            Expect.unchanged(yard, ARGUMENT, "filter of nothing in blocks of " + block, () -> yard.filter(3, 0, 3, block, false));
+            Expect.unchanged(ConvolutionsTest::noSamples, ARGUMENT, "filter in blocks of " + block, yard -> yard.filter(0, 0, 3, block, true));
+            Expect.unchanged(ConvolutionsTest::noSamples, ARGUMENT, "filter of nothing in blocks of " + block, yard -> yard.filter(3, 0, 3, block, false));
         }
         for (boolean save : new boolean[] {false, true}) {
-            Expect.unchanged(yard, ARGUMENT, "filter of 100", () -> yard.filter(1, 0, 3, 1, save));
-            Expect.unchanged(yard, ARGUMENT, "filter by -100", () -> yard.filter(0, 2, 3, 1, save));
-            Expect.unchanged(yard, ARGUMENT, "filter of 100 by nothing", () -> yard.filter(1, 3, 3, 1, save));
-            Expect.unchanged(yard, ARGUMENT, "filter of nothing by -100", () -> yard.filter(3, 2, 3, 1, save));
-            Expect.unchanged(yard, STATE, "filter of nothing", () -> yard.filter(3, 0, 0, 1, save));
-            Expect.unchanged(yard, STATE, "filter by nothing", () -> yard.filter(0, 3, 0, 1, save));
+            Expect.unchanged(ConvolutionsTest::noSamples, ARGUMENT, "filter of 100", yard -> yard.filter(1, 0, 3, 1, save));
+            Expect.unchanged(ConvolutionsTest::noSamples, ARGUMENT, "filter by -100", yard -> yard.filter(0, 2, 3, 1, save));
+            Expect.unchanged(ConvolutionsTest::noSamples, ARGUMENT, "filter of 100 by nothing", yard -> yard.filter(1, 3, 3, 1, save));
+            Expect.unchanged(ConvolutionsTest::noSamples, ARGUMENT, "filter of nothing by -100", yard -> yard.filter(3, 2, 3, 1, save));
+            Expect.unchanged(ConvolutionsTest::noSamples, STATE, "filter of nothing", yard -> yard.filter(3, 0, 0, 1, save));
+            Expect.unchanged(ConvolutionsTest::noSamples, STATE, "filter by nothing", yard -> yard.filter(0, 3, 0, 1, save));
         }
-        ButterflyYard longer = new ButterflyYard();
-        for (int number = 0; number < 33; number++) {
-            longer.append(0, 9);
-            longer.append(1, number == 32 ? 10 : 9);
-        }
-        Expect.unchanged(longer, STATE, "filter to 65 entries", () -> longer.filter(0, 1, 2, 32, false));
-        Expect.unchanged(longer, STATE, "filter to 65 entries, save", () -> longer.filter(0, 0, 0, 32, true));
+        Expect.unchanged(ConvolutionsTest::longRows, STATE, "filter to 65 entries", yard -> yard.filter(0, 1, 2, 32, false));
+        Expect.unchanged(ConvolutionsTest::longRows, STATE, "filter to 65 entries, save", yard -> yard.filter(0, 0, 0, 32, true));
     }
 
     private static void multiply() {
@@ -186,30 +201,28 @@ public final class ConvolutionsTest {
         Expect.same(due.toString(), Expect.row(yard, 3), "32 nines by 32 nines");
     }
 
-    private static void multiplyWrongly() {
+    private static ButterflyYard noDigits() {
         ButterflyYard yard = new ButterflyYard();
         Expect.fill(yard, 0, 1, 2);
         Expect.fill(yard, 1, 10);
         Expect.fill(yard, 2, 1, -1);
+        return yard;
+    }
+
+    private static void multiplyWrongly() {
         for (int none : NO_NUMBERS) {
-            Expect.unchanged(yard, INDEX, "multiply " + none, () -> yard.multiply(none, 1, 0));
-            Expect.unchanged(yard, INDEX, "multiply by " + none, () -> yard.multiply(1, none, 0));
-            Expect.unchanged(yard, INDEX, "multiply to " + none, () -> yard.multiply(3, 1, none));
+            Expect.unchanged(ConvolutionsTest::noDigits, INDEX, "multiply " + none, yard -> yard.multiply(none, 1, 0));
+            Expect.unchanged(ConvolutionsTest::noDigits, INDEX, "multiply by " + none, yard -> yard.multiply(1, none, 0));
+            Expect.unchanged(ConvolutionsTest::noDigits, INDEX, "multiply to " + none, yard -> yard.multiply(3, 1, none));
         }
-        Expect.unchanged(yard, ARGUMENT, "multiply 10", () -> yard.multiply(1, 0, 3));
-        Expect.unchanged(yard, ARGUMENT, "multiply by -1", () -> yard.multiply(0, 2, 3));
-        Expect.unchanged(yard, ARGUMENT, "multiply nothing by -1", () -> yard.multiply(3, 2, 3));
-        Expect.unchanged(yard, ARGUMENT, "multiply 10 by nothing", () -> yard.multiply(1, 3, 3));
-        Expect.unchanged(yard, STATE, "multiply nothing", () -> yard.multiply(3, 0, 0));
-        Expect.unchanged(yard, STATE, "multiply by nothing", () -> yard.multiply(0, 3, 0));
-        ButterflyYard longer = new ButterflyYard();
-        for (int number = 0; number < 33; number++) {
-            longer.append(0, 0);
-            longer.append(1, number == 32 ? 10 : 0);
-            longer.append(2, 0);
-        }
-        Expect.unchanged(longer, STATE, "multiply 33 digits by 33", () -> longer.multiply(0, 2, 3));
-        Expect.unchanged(longer, STATE, "multiply 33 digits by themselves", () -> longer.multiply(0, 0, 3));
-        Expect.unchanged(longer, ARGUMENT, "multiply 33 digits by 33 with a 10", () -> longer.multiply(0, 1, 3));
+        Expect.unchanged(ConvolutionsTest::noDigits, ARGUMENT, "multiply 10", yard -> yard.multiply(1, 0, 3));
+        Expect.unchanged(ConvolutionsTest::noDigits, ARGUMENT, "multiply by -1", yard -> yard.multiply(0, 2, 3));
+        Expect.unchanged(ConvolutionsTest::noDigits, ARGUMENT, "multiply nothing by -1", yard -> yard.multiply(3, 2, 3));
+        Expect.unchanged(ConvolutionsTest::noDigits, ARGUMENT, "multiply 10 by nothing", yard -> yard.multiply(1, 3, 3));
+        Expect.unchanged(ConvolutionsTest::noDigits, STATE, "multiply nothing", yard -> yard.multiply(3, 0, 0));
+        Expect.unchanged(ConvolutionsTest::noDigits, STATE, "multiply by nothing", yard -> yard.multiply(0, 3, 0));
+        Expect.unchanged(ConvolutionsTest::longRows, STATE, "multiply 33 digits by 33", yard -> yard.multiply(0, 2, 3));
+        Expect.unchanged(ConvolutionsTest::longRows, STATE, "multiply 33 digits by themselves", yard -> yard.multiply(0, 0, 3));
+        Expect.unchanged(ConvolutionsTest::longRows, ARGUMENT, "multiply 33 digits by 33 with a 10", yard -> yard.multiply(0, 1, 3));
     }
 }

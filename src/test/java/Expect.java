@@ -5,6 +5,15 @@ final class Expect {
         long answer();
     }
 
+    /** A call of the face on a yard that has been made for it alone. */
+    interface YardCall {
+        long answer(ButterflyYard yard);
+    }
+
+    interface Maker {
+        ButterflyYard made();
+    }
+
     private static int wrong = 0;
     private static int asked = 0;
 
@@ -52,7 +61,8 @@ final class Expect {
 
     static String row(ButterflyYard yard, int row) {
         StringBuilder text = new StringBuilder();
-        for (int entry = 0; entry < yard.length(row); entry++) {
+        int length = yard.length(row);
+        for (int entry = 0; entry < length; entry++) {
             text.append(entry == 0 ? "" : " ").append(yard.at(row, entry));
         }
         return text.toString();
@@ -64,17 +74,19 @@ final class Expect {
         for (int row = 0; row < 4; row++) {
             text.append('[').append(row(yard, row)).append(']');
         }
-        text.append(yard.plans());
-        for (int plan = 0; plan < yard.plans(); plan++) {
+        int plans = yard.plans();
+        text.append(plans);
+        for (int plan = 0; plan < plans; plan++) {
             text.append('(').append(yard.root(plan)).append(' ').append(yard.ways(plan)).append(')');
         }
         return text.toString();
     }
 
-    static void unchanged(ButterflyYard yard, Class<? extends RuntimeException> due, String call, Call made) {
-        String before = state(yard);
-        thrown(due, call, made);
-        same(before, state(yard), "the state after " + call);
+    /** Each call gets yards of its own: after 512 calls the answers of a yard are free. */
+    static void unchanged(Maker maker, Class<? extends RuntimeException> due, String call, YardCall made) {
+        ButterflyYard yard = maker.made();
+        thrown(due, call, () -> made.answer(yard));
+        same(state(maker.made()), state(yard), "the state after " + call);
     }
 
     private static void report(String what, String got, String due) {

@@ -6,6 +6,7 @@ public final class PlansTest {
 
     public static void main(String[] args) {
         numbersOfPlans();
+        noNinthPlan();
         wrongPrimes();
         wrongLengths();
         wrongNumbers();
@@ -21,18 +22,34 @@ public final class PlansTest {
             Expect.answer(due, "plan number " + due, () -> yard.plan(7, 6));
             Expect.answer(due + 1, "plans", yard::plans);
         }
-        Expect.unchanged(yard, STATE, "a ninth plan", () -> yard.plan(7, 6));
-        Expect.unchanged(yard, ARGUMENT, "a ninth plan of no prime", () -> yard.plan(8, 1));
-        Expect.unchanged(yard, ARGUMENT, "a ninth plan of no length", () -> yard.plan(7, 4));
         Expect.answer(3, "root of the last plan", () -> yard.root(7));
     }
 
-    private static void wrongPrimes() {
+    private static ButterflyYard full() {
         ButterflyYard yard = new ButterflyYard();
-        yard.plan(5, 4);
+        for (int number = 0; number < 8; number++) {
+            yard.plan(7, 6);
+        }
+        return yard;
+    }
+
+    private static void noNinthPlan() {
+        Expect.unchanged(PlansTest::full, STATE, "a ninth plan", yard -> yard.plan(7, 6));
+        Expect.unchanged(PlansTest::full, ARGUMENT, "a ninth plan of no prime", yard -> yard.plan(8, 1));
+        Expect.unchanged(PlansTest::full, ARGUMENT, "a ninth plan of no length", yard -> yard.plan(7, 4));
+    }
+
+    private static ButterflyYard twoPlans() {
+        ButterflyYard yard = new ButterflyYard();
+        yard.plan(7, 6);
+        yard.plan(29, 7);
+        return yard;
+    }
+
+    private static void wrongPrimes() {
         int[] none = {Integer.MIN_VALUE, -7, -1, 0, 1, 2, 4, 9, 15, 25, 91, 9409, 9971, 9972, 9974, 10007, 65537, Integer.MAX_VALUE};
         for (int prime : none) {
-            Expect.unchanged(yard, ARGUMENT, "plan(" + prime + ", 1)", () -> yard.plan(prime, 1));
+            Expect.unchanged(PlansTest::twoPlans, ARGUMENT, "plan(" + prime + ", 1)", yard -> yard.plan(prime, 1));
         }
         for (int number = -5; number < 10100; number++) {
             int asked = number;
@@ -46,24 +63,20 @@ public final class PlansTest {
     }
 
     private static void wrongLengths() {
-        ButterflyYard yard = new ButterflyYard();
-        yard.plan(5, 4);
         for (int length : new int[] {Integer.MIN_VALUE, -6, -1, 0, 4, 5, 7, 12, 64, Integer.MAX_VALUE}) {
-            Expect.unchanged(yard, ARGUMENT, "plan(7, " + length + ")", () -> yard.plan(7, length));
+            Expect.unchanged(PlansTest::twoPlans, ARGUMENT, "plan(7, " + length + ")", yard -> yard.plan(7, length));
         }
-        Expect.unchanged(yard, ARGUMENT, "plan(67, 66)", () -> yard.plan(67, 66));
-        Expect.unchanged(yard, ARGUMENT, "plan(131, 65)", () -> yard.plan(131, 65));
-        Expect.answer(1, "plan(193, 64)", () -> yard.plan(193, 64));
-        Expect.answer(2, "plan(3, 2)", () -> yard.plan(3, 2));
+        Expect.unchanged(PlansTest::twoPlans, ARGUMENT, "plan(67, 66)", yard -> yard.plan(67, 66));
+        Expect.unchanged(PlansTest::twoPlans, ARGUMENT, "plan(131, 65)", yard -> yard.plan(131, 65));
+        ButterflyYard edges = twoPlans();
+        Expect.answer(2, "plan(193, 64)", () -> edges.plan(193, 64));
+        Expect.answer(3, "plan(3, 2)", () -> edges.plan(3, 2));
     }
 
     private static void wrongNumbers() {
-        ButterflyYard yard = new ButterflyYard();
-        yard.plan(7, 6);
-        yard.plan(29, 7);
         for (int plan : new int[] {-1, 2, 3, 7, 8, Integer.MIN_VALUE, Integer.MAX_VALUE}) {
-            Expect.unchanged(yard, INDEX, "root(" + plan + ")", () -> yard.root(plan));
-            Expect.unchanged(yard, INDEX, "ways(" + plan + ")", () -> yard.ways(plan));
+            Expect.unchanged(PlansTest::twoPlans, INDEX, "root(" + plan + ")", yard -> yard.root(plan));
+            Expect.unchanged(PlansTest::twoPlans, INDEX, "ways(" + plan + ")", yard -> yard.ways(plan));
         }
     }
 

@@ -8,9 +8,11 @@ public final class RowsTest {
     public static void main(String[] args) {
         newObject();
         append();
+        appendWrongly();
         clear();
         copy();
         lengthAndAt();
+        wrongNumbers();
         twoYards();
         Expect.finish();
     }
@@ -32,22 +34,54 @@ public final class RowsTest {
         Expect.answer(2, "append 9999", () -> yard.append(3, 9999));
         Expect.answer(3, "append 0", () -> yard.append(3, 0));
         Expect.same("-9999 9999 0", Expect.row(yard, 3), "row 3");
-        for (int value : new int[] {-10000, 10000, Integer.MIN_VALUE, Integer.MAX_VALUE}) {
-            Expect.unchanged(yard, ARGUMENT, "append " + value, () -> yard.append(3, value));
-        }
-        for (int row : NO_ROWS) {
-            Expect.unchanged(yard, INDEX, "append to row " + row, () -> yard.append(row, 1));
-            Expect.unchanged(yard, INDEX, "append 10000 to row " + row, () -> yard.append(row, 10000));
-        }
         ButterflyYard full = new ButterflyYard();
         for (int count = 1; count <= 64; count++) {
             int due = count;
             Expect.answer(due, "append number " + due, () -> full.append(0, due));
         }
-        Expect.unchanged(full, STATE, "append to a full row", () -> full.append(0, 1));
-        Expect.unchanged(full, ARGUMENT, "append 10000 to a full row", () -> full.append(0, 10000));
+        Expect.thrown(STATE, "append number 65", () -> full.append(0, 1));
         Expect.answer(64, "the last entry", () -> full.at(0, 63));
         Expect.answer(1, "append to another row", () -> full.append(1, 1));
+    }
+
+    private static ButterflyYard filled() {
+        ButterflyYard yard = new ButterflyYard();
+        Expect.fill(yard, 0, 1, 2, 3);
+        Expect.fill(yard, 2, 8, -3);
+        return yard;
+    }
+
+    private static ButterflyYard full() {
+        ButterflyYard yard = new ButterflyYard();
+        for (int count = 1; count <= 64; count++) {
+            yard.append(0, count);
+        }
+        return yard;
+    }
+
+    private static void appendWrongly() {
+        for (int value : new int[] {-10000, 10000, Integer.MIN_VALUE, Integer.MAX_VALUE}) {
+            Expect.unchanged(RowsTest::filled, ARGUMENT, "append " + value, yard -> yard.append(3, value));
+            Expect.unchanged(RowsTest::full, ARGUMENT, "append " + value + " to a full row", yard -> yard.append(0, value));
+        }
+        for (int row : NO_ROWS) {
+            Expect.unchanged(RowsTest::filled, INDEX, "append to row " + row, yard -> yard.append(row, 1));
+            Expect.unchanged(RowsTest::filled, INDEX, "append 10000 to row " + row, yard -> yard.append(row, 10000));
+        }
+        Expect.unchanged(RowsTest::full, STATE, "append to a full row", yard -> yard.append(0, 1));
+    }
+
+    private static void wrongNumbers() {
+        for (int row : NO_ROWS) {
+            Expect.unchanged(RowsTest::filled, INDEX, "clear " + row, yard -> yard.clear(row));
+            Expect.unchanged(RowsTest::filled, INDEX, "copy from " + row, yard -> yard.copy(row, 0));
+            Expect.unchanged(RowsTest::filled, INDEX, "copy to " + row, yard -> yard.copy(0, row));
+            Expect.unchanged(RowsTest::filled, INDEX, "length of row " + row, yard -> yard.length(row));
+            Expect.unchanged(RowsTest::filled, INDEX, "at of row " + row, yard -> yard.at(row, 0));
+        }
+        for (int entry : new int[] {-1, 2, 63, 64, Integer.MIN_VALUE, Integer.MAX_VALUE}) {
+            Expect.unchanged(RowsTest::filled, INDEX, "at " + entry, yard -> yard.at(2, entry));
+        }
     }
 
     private static void clear() {
@@ -59,9 +93,6 @@ public final class RowsTest {
         Expect.same("[][][7][]0", Expect.state(yard), "the state after clear");
         Expect.answer(1, "append after clear", () -> yard.append(1, 9));
         Expect.same("9", Expect.row(yard, 1), "row 1");
-        for (int row : NO_ROWS) {
-            Expect.unchanged(yard, INDEX, "clear " + row, () -> yard.clear(row));
-        }
     }
 
     private static void copy() {
@@ -76,25 +107,13 @@ public final class RowsTest {
         Expect.same("[1 2 3 4][1 2 3][][1 2 3]0", Expect.state(yard), "the state when the source grows");
         Expect.answer(0, "copy of an empty row", () -> yard.copy(2, 1));
         Expect.same("[1 2 3 4][][][1 2 3]0", Expect.state(yard), "the state after copy of an empty row");
-        for (int row : NO_ROWS) {
-            Expect.unchanged(yard, INDEX, "copy from " + row, () -> yard.copy(row, 0));
-            Expect.unchanged(yard, INDEX, "copy to " + row, () -> yard.copy(0, row));
-        }
     }
 
     private static void lengthAndAt() {
-        ButterflyYard yard = new ButterflyYard();
-        Expect.fill(yard, 2, 8, -3);
+        ButterflyYard yard = filled();
         Expect.answer(2, "length", () -> yard.length(2));
         Expect.answer(8, "at 0", () -> yard.at(2, 0));
         Expect.answer(-3, "at 1", () -> yard.at(2, 1));
-        for (int entry : new int[] {-1, 2, 63, 64, Integer.MIN_VALUE, Integer.MAX_VALUE}) {
-            Expect.unchanged(yard, INDEX, "at " + entry, () -> yard.at(2, entry));
-        }
-        for (int row : NO_ROWS) {
-            Expect.unchanged(yard, INDEX, "length of row " + row, () -> yard.length(row));
-            Expect.unchanged(yard, INDEX, "at of row " + row, () -> yard.at(row, 0));
-        }
         yard.clear(2);
         Expect.thrown(INDEX, "at of a row cleared", () -> yard.at(2, 0));
     }

@@ -89,38 +89,36 @@ public final class TransformsTest {
     }
 
     private static void wrongInputs() {
-        ButterflyYard yard = filled();
         for (int none : NO_NUMBERS) {
-            Expect.unchanged(yard, INDEX, "forward by plan " + none, () -> yard.forward(none, 1, 0));
-            Expect.unchanged(yard, INDEX, "backward by plan " + none, () -> yard.backward(none, 1, 0));
-            Expect.unchanged(yard, INDEX, "sum by plan " + none, () -> yard.sum(none, 1, 0));
-            Expect.unchanged(yard, INDEX, "forward of row " + none, () -> yard.forward(0, none, 0));
-            Expect.unchanged(yard, INDEX, "backward of row " + none, () -> yard.backward(0, none, 0));
-            Expect.unchanged(yard, INDEX, "sum of row " + none, () -> yard.sum(0, none, 0));
-            Expect.unchanged(yard, INDEX, "sum of entry " + none, () -> yard.sum(0, 1, none));
+            Expect.unchanged(TransformsTest::filled, INDEX, "forward by plan " + none, yard -> yard.forward(none, 1, 0));
+            Expect.unchanged(TransformsTest::filled, INDEX, "backward by plan " + none, yard -> yard.backward(none, 1, 0));
+            Expect.unchanged(TransformsTest::filled, INDEX, "sum by plan " + none, yard -> yard.sum(none, 1, 0));
+            Expect.unchanged(TransformsTest::filled, INDEX, "forward of row " + none, yard -> yard.forward(0, none, 0));
+            Expect.unchanged(TransformsTest::filled, INDEX, "backward of row " + none, yard -> yard.backward(0, none, 0));
+            Expect.unchanged(TransformsTest::filled, INDEX, "sum of row " + none, yard -> yard.sum(0, none, 0));
+            Expect.unchanged(TransformsTest::filled, INDEX, "sum of entry " + none, yard -> yard.sum(0, 1, none));
         }
         for (int way : new int[] {-1, 2, 3, 5, 31, 32, 33, 36, -32, Integer.MIN_VALUE, Integer.MAX_VALUE}) {
-            Expect.unchanged(yard, ARGUMENT, "forward by way " + way, () -> yard.forward(0, 1, way));
-            Expect.unchanged(yard, ARGUMENT, "backward by way " + way, () -> yard.backward(0, 1, way));
+            Expect.unchanged(TransformsTest::filled, ARGUMENT, "forward by way " + way, yard -> yard.forward(0, 1, way));
+            Expect.unchanged(TransformsTest::filled, ARGUMENT, "backward by way " + way, yard -> yard.backward(0, 1, way));
         }
-        Expect.unchanged(yard, ARGUMENT, "Good and Thomas of 3", () -> yard.forward(1, 1, 2));
-        Expect.unchanged(yard, ARGUMENT, "Rader of 6", () -> yard.backward(2, 1, 3));
+        Expect.unchanged(TransformsTest::filled, ARGUMENT, "Good and Thomas of 3", yard -> yard.forward(1, 1, 2));
+        Expect.unchanged(TransformsTest::filled, ARGUMENT, "Rader of 6", yard -> yard.backward(2, 1, 3));
         for (int way : new int[] {0, 1, 4}) {
-            Expect.unchanged(yard, STATE, "forward of 5 by 4", () -> yard.forward(0, 0, way));
-            Expect.unchanged(yard, STATE, "backward of 5 by 4", () -> yard.backward(0, 0, way));
+            Expect.unchanged(TransformsTest::filled, STATE, "forward of 5 by 4", yard -> yard.forward(0, 0, way));
+            Expect.unchanged(TransformsTest::filled, STATE, "backward of 5 by 4", yard -> yard.backward(0, 0, way));
         }
-        Expect.unchanged(yard, STATE, "sum of 5 by 4", () -> yard.sum(0, 0, 3));
+        Expect.unchanged(TransformsTest::filled, STATE, "sum of 5 by 4", yard -> yard.sum(0, 0, 3));
     }
 
     private static void orderOfExceptions() {
-        ButterflyYard yard = filled();
-        Expect.unchanged(yard, INDEX, "forward: plan and way", () -> yard.forward(4, 0, 9));
-        Expect.unchanged(yard, INDEX, "forward: row and way", () -> yard.forward(0, 4, 9));
-        Expect.unchanged(yard, ARGUMENT, "forward: way and row too long", () -> yard.forward(0, 0, 2));
-        Expect.unchanged(yard, INDEX, "backward: plan and way", () -> yard.backward(4, 0, 9));
-        Expect.unchanged(yard, INDEX, "backward: row and way", () -> yard.backward(0, 4, 9));
-        Expect.unchanged(yard, ARGUMENT, "backward: way and row too long", () -> yard.backward(0, 0, 3));
-        Expect.unchanged(yard, INDEX, "sum: entry and row too long", () -> yard.sum(0, 0, 4));
+        Expect.unchanged(TransformsTest::filled, INDEX, "forward: plan and way", yard -> yard.forward(4, 0, 9));
+        Expect.unchanged(TransformsTest::filled, INDEX, "forward: row and way", yard -> yard.forward(0, 4, 9));
+        Expect.unchanged(TransformsTest::filled, ARGUMENT, "forward: way and row too long", yard -> yard.forward(0, 0, 2));
+        Expect.unchanged(TransformsTest::filled, INDEX, "backward: plan and way", yard -> yard.backward(4, 0, 9));
+        Expect.unchanged(TransformsTest::filled, INDEX, "backward: row and way", yard -> yard.backward(0, 4, 9));
+        Expect.unchanged(TransformsTest::filled, ARGUMENT, "backward: way and row too long", yard -> yard.backward(0, 0, 3));
+        Expect.unchanged(TransformsTest::filled, INDEX, "sum: entry and row too long", yard -> yard.sum(0, 0, 4));
     }
 
     private static void everyLengthByEveryWay() {
