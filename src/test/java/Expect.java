@@ -59,6 +59,14 @@ final class Expect {
         }
     }
 
+    /** Fills a row up, with numbers that rise by 1. */
+    static void full(ButterflyYard yard, int row, int first) {
+        yard.clear(row);
+        for (int number = 0; number < 64; number++) {
+            yard.append(row, first + number);
+        }
+    }
+
     static String row(ButterflyYard yard, int row) {
         StringBuilder text = new StringBuilder();
         int length = yard.length(row);
