@@ -226,6 +226,28 @@ final class Reference {
         return made.size();
     }
 
+    /** As Expect.row() tells a yard's. */
+    String row(int row) {
+        StringBuilder text = new StringBuilder();
+        for (int entry : rows.get(row)) {
+            text.append(text.length() == 0 ? "" : " ").append(entry);
+        }
+        return text.toString();
+    }
+
+    /** As Expect.state() tells a yard's. */
+    String state() {
+        StringBuilder text = new StringBuilder();
+        for (int row = 0; row < 4; row++) {
+            text.append('[').append(row(row)).append(']');
+        }
+        text.append(plans());
+        for (int plan = 0; plan < plans(); plan++) {
+            text.append('(').append(root(plan)).append(' ').append(ways(plan)).append(')');
+        }
+        return text.toString();
+    }
+
     private BigInteger number(int row) {
         StringBuilder digits = new StringBuilder();
         for (int digit : rows.get(row)) {

@@ -190,15 +190,7 @@ public final class TransformBoundsTest {
         String call = named(back, plan, way) + " of " + length;
         int due = back ? reference.backward(0, 2, way) : reference.forward(0, 2, way);
         Expect.answer(due, call, () -> transform(yard, back, 0, 2, way));
-        Expect.same(row(reference, 2), Expect.row(yard, 2), "the row after " + call);
-    }
-
-    private static String row(Reference reference, int row) {
-        StringBuilder text = new StringBuilder();
-        for (int entry = 0; entry < reference.length(row); entry++) {
-            text.append(entry == 0 ? "" : " ").append(reference.at(row, entry));
-        }
-        return text.toString();
+        Expect.same(reference.row(2), Expect.row(yard, 2), "the row after " + call);
     }
 
     /** "If several apply, the one that the throws clause names first is thrown", of forward and backward. */
