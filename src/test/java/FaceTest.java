@@ -32,6 +32,9 @@ public final class FaceTest {
     public static void main(String[] args) {
         Class<?> face = ButterflyYard.class;
         Expect.same("public final", Modifier.toString(face.getModifiers()), "the class");
+        Expect.same("", face.getPackageName(), "the package of the class");
+        Expect.same("class java.lang.Object", String.valueOf(face.getSuperclass()), "the class above the class");
+        Expect.same("[]", Arrays.toString(face.getInterfaces()), "the interfaces of the class");
         members(face);
         nestedClasses(face);
         Expect.finish();

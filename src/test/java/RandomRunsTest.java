@@ -1,17 +1,25 @@
 /** Long runs of calls, right and wrong ones, beside the reference; the numbers that choose them are always the same. */
 public final class RandomRunsTest {
     private static final int RUNS = 3000;
-    /** With the calls that read the rows at last they stay below 512. */
-    private static final int CALLS = 190;
+    private static final int MOST_CALLS = 512;
+    /** Of the runs that read all rows at last: 4 lengths and 256 entries are still to be asked, and a step may take two calls. */
+    private static final int CALLS_BEFORE_READING = MOST_CALLS - 4 - 256 - 1;
     private static final int[][] PLANS = {
         {7, 6}, {29, 7}, {5, 1}, {97, 8}, {9973, 12}, {193, 64}, {61, 60}, {61, 30}, {43, 42}, {3, 2}, {13, 3},
         {9551, 50}, {7321, 61}, {47, 23}, {9871, 47}, {2, 1}, {9, 2}, {7, 4}, {67, 66}, {9281, 64}, {0, 0}, {11, -1}};
 
     private static long seed = 20260101;
+    /** How many calls the object has had. */
+    private static int calls = 0;
 
     public static void main(String[] args) {
         for (int run = 0; run < RUNS; run++) {
-            oneRun(run);
+            calls = 0;
+            if (run % 3 == 0) {
+                runToTheLastCall("run " + run);
+            } else {
+                runAndRead("run " + run);
+            }
         }
         Expect.finish();
     }
@@ -26,24 +34,41 @@ public final class RandomRunsTest {
         return below(40) == 0 ? (below(2) == 0 ? -1 : bound) : below(bound);
     }
 
-    private static void oneRun(int run) {
+    private static void runAndRead(String run) {
         ButterflyYard yard = new ButterflyYard();
         Reference reference = new Reference();
-        for (int call = 0; call < CALLS; call++) {
-            step(yard, reference, "run " + run + ", call " + call + ": ");
+        while (calls < CALLS_BEFORE_READING) {
+            step(yard, reference, run + ", call " + (calls + 1) + ": ");
         }
         for (int row = 0; row < 4; row++) {
             int asked = row;
-            compare("run " + run + ": length of row " + row, () -> yard.length(asked), () -> reference.length(asked));
+            compare(run + ": length of row " + row, () -> yard.length(asked), () -> reference.length(asked));
             for (int entry = 0; entry < reference.length(row); entry++) {
                 int place = entry;
-                compare("run " + run + ": entry " + entry + " of row " + row,
+                compare(run + ": entry " + entry + " of row " + row,
                     () -> yard.at(asked, place), () -> reference.at(asked, place));
             }
         }
     }
 
+    /** "An object is used for at most 512 calls after it has been made": the last of them is answered like the first. */
+    private static void runToTheLastCall(String run) {
+        ButterflyYard yard = new ButterflyYard();
+        Reference reference = new Reference();
+        while (calls < MOST_CALLS - 1) {
+            step(yard, reference, run + ", call " + (calls + 1) + ": ");
+        }
+        while (calls < MOST_CALLS) {
+            compare(run + ": plans at last", yard::plans, reference::plans);
+        }
+    }
+
+    /** Counts the call too, and refuses one after the last of which the document speaks. */
     private static void compare(String call, Expect.Call made, Expect.Call due) {
+        calls++;
+        if (calls > MOST_CALLS) {
+            throw new AssertionError(call + " is call " + calls);
+        }
         Expect.same(Expect.outcome(due), Expect.outcome(made), call);
     }
 
